@@ -197,6 +197,12 @@ public final class PromiseTests {
         begin(4);
         x.girl(0);
         bytes(0, 1, 1, -1, 1, 2, 2, 0, 2, 3, 3, -1, 3, 4, 4, -1, 4, 5, 5, -1, 5, 6, 6, -1, 6, 7, 7, -1, 7, 8, 8, -1, 8);
+        due("n 1", x.frogs(0, 0, 1), 1);
+        due("no more than told", x.count(1), 1);
+        due("up to FULL", x.frogs(0, 0, 8), 7);
+        begin(4);
+        x.girl(0);
+        bytes(0, 1, 1, -1, 1, 2, 2, 0, 2, 3, 3, -1, 3, 4, 4, -1, 4, 5, 5, -1, 5, 6, 6, -1, 6, 7, 7, -1, 7, 8, 8, -1, 8);
         due("n 8", x.frogs(0, 0, 8), 8);
     }
 
@@ -330,6 +336,11 @@ public final class PromiseTests {
         gives("-1?3;9", 3);
         gives("8;1?3;9", 8);
         gives("0|0?3;0|7?11;4", 11);
+        gives("1?0|3", 1);
+        gives("1?((((((6))))))", 6);
+        gives("9;".repeat(59) + "9", 9);
+        gives("0?8;".repeat(29) + "1", 1);
+        gives("0*0?8;0*0?9", 0);
         gives("((((((6))))))", 6);
         gives("!!!!!!6", 1);
         gives("-(-(-(-3)))", VOID);
@@ -525,6 +536,17 @@ public final class PromiseTests {
         x.mend(0, 2, 8);
         due("three don't go", x.loan(0, 99, 1), NOT);
         due("three don't go, how much", x.loan(0, 99, 0), NOT);
+        x.mend(0, 7, 11);
+        due("25 is too late", x.loan(0, 99, 1), NOT);
+        due("25 is too late, how much", x.loan(0, 99, 0), NOT);
+        x.frog(0, 0);
+        x.frog(29, 1);
+        x.mend(0, 6, 0);
+        x.mend(0, 7, 0);
+        due("girl 1, frog 2", x.loan(12, 50, 1), 1);
+        due("girl 1, frog 2, how much", x.loan(12, 50, 0), 49);
+        due("girl 0, frog 2", x.loan(2, 50, 1), 9);
+        due("girl 1, frog 1", x.loan(11, 50, 1), 10);
     }
 
     private static void best() {
@@ -545,6 +567,8 @@ public final class PromiseTests {
         due("what -1", x.best(0, 9, -1), BAD);
         due("of like ones the least", x.best(0, 9, 0), 1);
         due("how much", x.best(0, 9, 1), 7);
+        due("x 1", x.best(0, 1, 1), 0);
+        due("x 99", x.best(0, 99, 1), 97);
         due("0 is some", x.best(0, 2, 0), 0);
         due("0 comes", x.best(0, 2, 1), 0);
         x.mend(0, 6, 11);
@@ -581,6 +605,13 @@ public final class PromiseTests {
         due("only one", x.dealt(3, -1), 1);
         due("nothing comes", x.dealt(2, 0), 9);
         due("nothing at all", x.dealt(2, -1), 0);
+        due("x 1", x.dealt(1, -1), 0);
+        due("x 99", x.dealt(99, -1), 97 + 93);
+        x.mend(0, 2, 35);
+        x.mend(1, 2, 4);
+        due("girl 0 doesn't lend for nothing", x.dealt(8, 0), 9);
+        due("girl 1 does for some", x.dealt(8, 1), 1);
+        due("some", x.dealt(8, -1), 6);
         begin(15);
         x.girl(0);
         x.girl(0);
@@ -615,6 +646,12 @@ public final class PromiseTests {
         due("9 behind 4", x.least(0, 49), NOT);
         due("1 behind 7", x.least(0, 71), 34);
         due("BACK: 0", x.least(0, 81), NOT);
+        x.girl(35);
+        x.frog(0, 0);
+        x.frog(20, 2);
+        x.frog(9, 1);
+        due("girl 1, frog 3: 1 behind 1", x.least(13, 11), 11);
+        due("girl 1, frog 2: 1 behind 4", x.least(12, 41), 18);
         lawOf("b>49?20;0");
         due("by a law that takes from the rich", x.least(0, 14), 40);
         due("the rich sing louder", x.least(0, 17), 90);
@@ -786,6 +823,12 @@ public final class PromiseTests {
         due("BACK behind 10", x.alike(), 0);
         x.mend(0, 6, 11);
         due("a step at 11", x.alike(), 1);
+        lawOf("h=0&d<3");
+        x.mend(0, 7, 0);
+        x.mend(0, 2, 3);
+        due("unlike only behind 13", x.alike(), 1);
+        x.mend(0, 7, 1);
+        due("unlike behind 12 too", x.alike(), 0);
     }
 
     private static void ring() {
@@ -826,6 +869,8 @@ public final class PromiseTests {
         due("five", x.byTurns(0, 5, 0), 19);
         due("nothing changes", x.of(0, 6), 5);
         due("KEEPS neither", x.of(0, 3), 2);
+        x.mend(0, 6, 1);
+        due("TWO is 1", x.byTurns(0, 1, 0), 34);
         x.mend(0, 6, 0);
         due("TWO is 0", x.byTurns(0, 1, 0), 34);
         due("it's all the same", x.byTurns(0, 1, 1), 0);
@@ -862,22 +907,34 @@ public final class PromiseTests {
         x.frog(4, 1);
         x.lends(0, 20);
         x.lends(11, 20);
-        // z is 12345, then -1043980748: frog 0 at 0 of 100, then frog 1 at 6 of 100
         due("no carts", x.drawn(0, 10100, -1), 2);
+        // by seed 0: frog 0 where CARTS are above 0, frog 0 above 36, frog 1 above 56, 0 above 85, 98, 95, 45, 1 above 9
         due("below 1", x.drawn(0, 10101, -1), 1);
-        due("twice, once below 1", x.drawn(0, 10201, -1), 1);
-        int z = 12345 * 1103515245 + 12345;
-        int second = (z >>> 16) % 100;
-        boolean other = (z >>> 8) % 2 == 1;
-        due("twice, both below", x.drawn(0, 10200 + second + 1, -1), other ? 0 : 1);
-        due("twice, the second at it", x.drawn(0, 10200 + second, -1), 1);
-        due("the second June goes on with z", x.drawn(0, 20100 + second + 1, -1), 2);
-        due("the seed", x.drawn(12345, 10100 + second + 1, -1), 1);
+        due("frog 0 again", x.drawn(0, 10299, -1), 1);
+        due("frog 1 at the third hour", x.drawn(0, 10357, -1), 0);
+        due("56 is not below 56", x.drawn(0, 10356, -1), 1);
+        due("the second June goes on with z", x.drawn(0, 20130, -1), 3);
+        due("37 is enough for it", x.drawn(0, 20137, -1), 2);
+        due("by seed 7 frog 1", x.drawn(7, 10133, -1), 1);
+        due("32 is not below 32", x.drawn(7, 10132, -1), 2);
+        due("below 0 the seed wraps too", x.drawn(-740551042, 10157, -1), 1);
+        x.mend(0, 6, 11);
+        due("seven hours below 56", x.drawn(0, 10756, -1), 1);
+        due("eight hours below 10", x.drawn(0, 10810, -1), 0);
+        due("eight hours below 9", x.drawn(0, 10809, -1), 1);
+        x.undo();
         due("BREATH of 0", x.drawn(0, 300100, 0), 1200);
         due("BREATH of 1", x.drawn(0, 20100, 1), 80);
         due("all BACK", x.drawn(0, 34000, 1), 3 * (40 + 20 - 6 - 2));
         due("nothing changes", x.marsh(0, 0), 3);
         due("no hour is led", x.led(0), 0);
+        begin(24);
+        x.girl(0);
+        x.frog(3, 0);
+        x.lends(0, 10);
+        due("one frog", x.drawn(0, 10101, -1), 0);
+        due("what he held is gone", x.drawn(0, 14001, 0), 50);
+        due("30 Junes of 40 hours", x.drawn(0, 304000, 0), 30 * 56);
     }
 
     private static void hour() {
@@ -917,9 +974,28 @@ public final class PromiseTests {
         due("BREATH of both", x.of(0, 1), 99);
         due("who OWES nobody stays", x.of(3, 5), 44);
         due("where he is", x.of(3, 2), 20);
+        x.mend(3, 4, 0);
+        x.mend(3, 5, 0);
+        x.mend(3, 2, 33);
+        due("up in Y, X first", x.hour(), 0);
+        due("one off in X", x.of(3, 2), 32);
+        x.hour();
+        x.hour();
+        due("X as hers", x.of(3, 2), 25);
+        x.hour();
+        due("up in Y", x.of(3, 2), 19);
+        x.hour();
+        due("BACK with nothing", x.hour(), 1);
+        due("four are BACK", x.led(3), 4);
     }
 
     private static void lends() {
+        begin(26);
+        x.girl(0);
+        x.girl(0);
+        x.frog(0, 0);
+        due("girl 1", x.lends(10, 7), 53);
+        due("of her", x.of(0, 4), 1);
         begin(26);
         x.girl(0);
         x.frog(35, 2);
@@ -1030,6 +1106,15 @@ public final class PromiseTests {
     }
 
     private static void undo() {
+        begin(31);
+        x.girl(3);
+        x.girl(4);
+        x.mend(1, 0, 20);
+        x.undo();
+        due("of girl 1", x.of(1, 0), 4);
+        due("not of girl 0", x.of(0, 0), 3);
+        x.redo();
+        due("again of girl 1", x.of(1, 0), 20);
         begin(31);
         due("none", x.undo(), STATE);
         x.girl(3);
