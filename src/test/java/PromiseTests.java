@@ -487,6 +487,16 @@ public final class PromiseTests {
         x.mend(1, 2, 0);
         x.mend(1, 4, 0);
         due("at her PLACE, from TWO on", x.backWhen(1), 6);
+        for (int place = 0; place < 36; place++) {
+            begin(12);
+            x.girl(place);
+            x.mend(0, 6, 0);
+            x.frog(14, 0);
+            x.lends(0, 1);
+            int off = Math.abs(place / 6 - 2) + Math.abs(place % 6 - 2);
+            due("BACK at " + place, x.backWhen(0), Math.max(1, off));
+        }
+        oneLoan(12);
         x.mend(0, 6, 11);
         due("three steps at 11", x.backWhen(0), 36);
         x.mend(0, 7, 11);
@@ -546,6 +556,7 @@ public final class PromiseTests {
         due("girl 1, frog 2", x.loan(12, 50, 1), 1);
         due("girl 1, frog 2, how much", x.loan(12, 50, 0), 49);
         due("girl 0, frog 2", x.loan(2, 50, 1), 9);
+        due("girl 1, frog 0", x.loan(10, 50, 1), 7);
         due("girl 1, frog 1", x.loan(11, 50, 1), 10);
     }
 
@@ -651,6 +662,7 @@ public final class PromiseTests {
         x.frog(20, 2);
         x.frog(9, 1);
         due("girl 1, frog 3: 1 behind 1", x.least(13, 11), 11);
+        due("girl 1, frog 0: 1 behind 8", x.least(10, 81), 38);
         due("girl 1, frog 2: 1 behind 4", x.least(12, 41), 18);
         lawOf("b>49?20;0");
         due("by a law that takes from the rich", x.least(0, 14), 40);
