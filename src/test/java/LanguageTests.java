@@ -70,6 +70,8 @@ public final class LanguageTests {
             }
         }
         hold(constants.equals(Set.of("BAD", "NOT", "FULL", "STATE", "VOID")), "rule 1: constants " + constants);
+        hold(FrogBreath.BAD == -1 && FrogBreath.NOT == -2 && FrogBreath.FULL == -3 && FrogBreath.STATE == -5
+                && FrogBreath.VOID == -2000000000, "a constant is not as told");
     }
 
     private static void members(Class<?> c) {

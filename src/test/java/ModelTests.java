@@ -3,11 +3,12 @@ import java.util.List;
 
 /** Long runs of drawn calls, wild arguments among them, against a second, slower writing of the document. */
 public final class ModelTests {
-    private static final int RUNS = 600, CALLS = 512;
+    private static final int RUNS = 1500, CALLS = 512;
     private static long drawn = 20261119L;
     private static FrogBreath real;
     private static Model model;
     private static int wrong;
+    private static int calls;
 
     private static int draw(int low, int high) {
         drawn = drawn * 6364136223846793005L + 1442695040888963407L;
@@ -29,20 +30,62 @@ public final class ModelTests {
 
     public static void main(String[] args) {
         for (int run = 1; run <= RUNS && wrong == 0; run++) {
-            real = new FrogBreath();
-            model = new Model();
+            begin();
             StringBuilder told = new StringBuilder();
             people(told);
-            for (int call = 0; call < CALLS && wrong == 0; call++) {
+            while (calls < CALLS && wrong == 0) {
                 oneCall(told);
             }
             if (wrong != 0) {
                 System.out.println("run " + run + ": " + told);
             }
         }
-        System.out.println(wrong == 0 ? RUNS + " runs as the model's" : "not as the model's");
+        int texts = allTexts("1b+*<&|!-()?;$", 4) + allTexts("(!-1)", 8) + allTexts("1<()", 8) + allTexts("1?;", 9);
+        System.out.println(wrong == 0 ? RUNS + " runs, " + texts + " texts as the model's" : "not as the model's");
         if (wrong != 0) {
             System.exit(1);
+        }
+    }
+
+    private static void begin() {
+        real = new FrogBreath();
+        model = new Model();
+        calls = 0;
+    }
+
+    /** All texts of these signs, so long at most: how many; each is read as the model reads it. */
+    private static int allTexts(String signs, int longest) {
+        int texts = 0;
+        for (int length = 0; length <= longest && wrong == 0; length++) {
+            long all = Math.round(Math.pow(signs.length(), length));
+            for (long which = 0; which < all && wrong == 0; which++) {
+                StringBuilder text = new StringBuilder();
+                long left = which;
+                for (int i = 0; i < length; i++) {
+                    text.append(signs.charAt((int) (left % signs.length())));
+                    left /= signs.length();
+                }
+                oneText(text.toString());
+                texts++;
+            }
+        }
+        return texts;
+    }
+
+    private static void oneText(String text) {
+        if (calls + text.length() >= CALLS) {
+            begin();
+        }
+        for (int i = 0; i < text.length(); i++) {
+            real.feed(text.charAt(i));
+        }
+        calls += text.length() + 1;
+        int fault = Model.fault(text);
+        int got = real.law();
+        int want = fault < 0 ? 1 : -100 - fault;
+        if (got != want) {
+            wrong++;
+            System.out.println("law of " + text + " answered " + got + ", by the model " + want);
         }
     }
 
@@ -65,6 +108,11 @@ public final class ModelTests {
     }
 
     private static void check(StringBuilder told, String call, long got, long want, long... args) {
+        calls++;
+        if (calls > CALLS) {
+            // what calls answer from here on is free
+            return;
+        }
         told.append("\n  ").append(call).append(java.util.Arrays.toString(args)).append(" = ").append(want);
         if (got != want) {
             wrong++;

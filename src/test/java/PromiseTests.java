@@ -1,41 +1,12 @@
 /** Each promise of the document by hand: ordinary calls, the edges it names, wrong arguments. */
-public final class PromiseTests {
-    private static final int BAD = -1, NOT = -2, FULL = -3, STATE = -5, VOID = -2000000000;
-    private static final int MIN = Integer.MIN_VALUE, MAX = Integer.MAX_VALUE;
-    private static int wrong;
-    private static int rows;
-    private static int promise;
-    private static FrogBreath x;
-
-    private static void due(String what, long got, long want) {
-        rows++;
-        if (got != want) {
-            wrong++;
-            System.out.println("promise " + promise + ": " + what + " answered " + got + ", due is " + want);
-        }
-    }
-
+public final class PromiseTests extends Checks {
     private static void begin(int number) {
-        promise = number;
+        promise(number);
         x = new FrogBreath();
     }
 
-    private static void feedAll(String text) {
-        for (int i = 0; i < text.length(); i++) {
-            x.feed(text.charAt(i));
-        }
-    }
-
-    private static int lawOf(String text) {
-        feedAll(text);
-        return x.law();
-    }
-
-    private static void bytes(int shelf, int... values) {
-        x.row(shelf, 0, values.length);
-        for (int i = 0; i < values.length; i++) {
-            x.put(shelf, i, values[i]);
-        }
+    private static void promise(int number) {
+        about = "promise " + number;
     }
 
     /** A girl at 0, a frog at place 8 (two off in X, one in Y) who keeps 3 and has 30 of hers. */
@@ -89,10 +60,7 @@ public final class PromiseTests {
         shift();
         taken();
         count();
-        System.out.println(rows + " rows, " + wrong + " wrong");
-        if (wrong != 0) {
-            System.exit(1);
-        }
+        finish();
     }
 
     private static void newObject() {
@@ -1075,9 +1043,9 @@ public final class PromiseTests {
         due("none", x.back(), STATE);
         x.hour();
         x.mend(0, 6, 1);
-        promise = 29;
+        promise(29);
         due("an image", x.image(), 1);
-        promise = 30;
+        promise(30);
         x.hour();
         x.over(0);
         x.mend(0, 3, 9);
@@ -1108,9 +1076,9 @@ public final class PromiseTests {
         due("HOUR again", x.of(0, 7), 1);
         x.hour();
         x.hour();
-        promise = 29;
+        promise(29);
         due("another image", x.image(), 3);
-        promise = 30;
+        promise(30);
         x.hour();
         due("the latest is laid back", x.back(), 3);
         due("undone behind it", x.undo(), 3);
@@ -1392,12 +1360,6 @@ public final class PromiseTests {
         holds(1, 1, 1, 2, 3, 4);
         due("down in itself", x.shift(1, 2, 1, 0, 3), 3);
         holds(1, 2, 3, 4, 3, 4);
-    }
-
-    private static void holds(int shelf, int... values) {
-        for (int i = 0; i < values.length; i++) {
-            due("element " + i, x.element(shelf, i), values[i]);
-        }
     }
 
     private static void taken() {
