@@ -61,6 +61,8 @@ public final class LawTests extends Checks {
         due("120 may come again", x.feed('9'), 1);
         gives("-9" + "+1".repeat(16) + "+0".repeat(43), 7);
         gives("+1".repeat(59).substring(1) + "-52", 7);
+        gives("-0?1" + "+1".repeat(58), 0);
+        gives("-1?1" + "+0".repeat(58), 1);
         gives("0|1&0<1+1*(".repeat(6) + "1" + ")".repeat(6), 1);
         fault("1+".repeat(60), 120);
         fault("1+".repeat(59) + "1)", 119);
