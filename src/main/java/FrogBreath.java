@@ -1389,7 +1389,8 @@ public final class FrogBreath {
 
         final void begins(int body) {
             ran[0]++;
-            if (within(ran[0], 1, TRACE)) {
+            // not by within(): Sigh's and Clock's tells would go nine calls deep
+            if (ran[0] > 0 && ran[0] <= TRACE) {
                 ran[ran[0]] = body;
             }
         }
